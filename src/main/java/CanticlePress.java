@@ -69,7 +69,7 @@ public final class CanticlePress {
 
     public int hymn(int owner, int seasons, int lines, int rests)
             throws IndexOutOfBoundsException, IllegalArgumentException, IllegalStateException {
-        needIndex(isBetween(owner, 0, OWNERS - 1));
+        needIndex(isOwner(owner));
         needArgument(isBetween(seasons, 1, ALL_SEASONS));
         needArgument(isBetween(lines, 1, MOST_LINES));
         needArgument(isBetween(rests, 0, (1 << lines) - 1));
@@ -150,7 +150,7 @@ public final class CanticlePress {
 
     public int end(int right, int last)
             throws IndexOutOfBoundsException, IllegalArgumentException, IllegalStateException {
-        needIndex(isBetween(right, 0, rightCount - 1));
+        needIndex(isRight(right));
         needArgument(isBetween(last, today - 1, LAST_DAY));
         needState(lastOfRight[right] > last);
         lastOfRight[right] = last;
@@ -323,7 +323,7 @@ public final class CanticlePress {
     // ---- reports and days
 
     public int sung(int owner, int year) throws IndexOutOfBoundsException {
-        needIndex(isBetween(owner, 0, OWNERS - 1));
+        needIndex(isOwner(owner));
         needIndex(isYear(year));
         int count = 0;
         for (int service = 0; service < serviceCount; service++) {
@@ -336,7 +336,7 @@ public final class CanticlePress {
     }
 
     public int sungByHymns(int owner, int year) throws IndexOutOfBoundsException {
-        needIndex(isBetween(owner, 0, OWNERS - 1));
+        needIndex(isOwner(owner));
         needIndex(isYear(year));
         int count = 0;
         for (int hymn = 0; hymn < hymnCount; hymn++) {
@@ -379,8 +379,16 @@ public final class CanticlePress {
 
     // ---- what calls need
 
+    private static boolean isOwner(int owner) {
+        return isBetween(owner, 0, OWNERS - 1);
+    }
+
     private boolean isHymn(int hymn) {
         return isBetween(hymn, 0, hymnCount - 1);
+    }
+
+    private boolean isRight(int right) {
+        return isBetween(right, 0, rightCount - 1);
     }
 
     private boolean isService(int service) {

@@ -77,7 +77,8 @@ public final class FaceTest {
         check.same("methods", got, due);
         for (Method method : face.getDeclaredMethods()) {
             if (Modifier.isPrivate(method.getModifiers())) {
-                check.same("private " + method.getName() + " has a public name", publicNames.contains(method.getName()), false);
+                String name = method.getName();
+                check.same("private " + name + " has a public name", publicNames.contains(name), false);
             }
         }
     }

@@ -1,4 +1,5 @@
 import java.util.ArrayList;
+import java.util.BitSet;
 import java.util.HashSet;
 import java.util.List;
 import java.util.Set;
@@ -14,7 +15,7 @@ final class PlainPress {
         int[] printed = new int[4];
     }
 
-    private record Right(int hymn, int use, Set<Integer> days, int[] firstAndLast) {
+    private record Right(int hymn, int use, BitSet days, int[] firstAndLast) {
     }
 
     private static final class Service {
@@ -26,7 +27,8 @@ final class PlainPress {
     private final List<Hymn> hymns = new ArrayList<>();
     private final List<Right> rights = new ArrayList<>();
     private final List<Service> services = new ArrayList<>();
-    private final List<Set<Integer>> known = List.of(new TreeSet<>(), new TreeSet<>(), new TreeSet<>(), new TreeSet<>());
+    private final List<Set<Integer>> known =
+            List.of(new TreeSet<>(), new TreeSet<>(), new TreeSet<>(), new TreeSet<>());
     private int today = 0;
 
     int today() {
@@ -118,10 +120,8 @@ final class PlainPress {
         index(use != 0 && use != 1);
         argument(first < 0 || first > 1459 || last < first || last > 1459);
         state(rights.size() == 40);
-        Set<Integer> days = new HashSet<>();
-        for (int day = first; day <= last; day++) {
-            days.add(day);
-        }
+        BitSet days = new BitSet();
+        days.set(first, last + 1);
         rights.add(new Right(hymn, use, days, new int[] {first, last}));
         return rights.size() - 1;
     }
@@ -132,7 +132,7 @@ final class PlainPress {
         Right ended = rights.get(right);
         state(ended.firstAndLast[1] <= last);
         ended.firstAndLast[1] = last;
-        ended.days.removeIf(day -> day > last);
+        ended.days.clear(last + 1, 1460);
         List<Service> lost = new ArrayList<>();
         for (Service service : services) {
             if (service.day >= today && service.hymn != null && !hasRight(service.hymn, 0, service.day)) {
@@ -152,7 +152,7 @@ final class PlainPress {
         told(hymn);
         index(use != 0 && use != 1);
         argument(day < 0 || day > 1459);
-        return rights.stream().anyMatch(r -> r.hymn == hymn && r.use == use && r.days.contains(day));
+        return rights.stream().anyMatch(r -> r.hymn == hymn && r.use == use && r.days.get(day));
     }
 
     int print(int hymn, int copies) {

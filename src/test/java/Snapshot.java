@@ -11,7 +11,8 @@ final class Snapshot {
         StringBuilder text = new StringBuilder();
         text.append("hymns ").append(press.hymns()).append(" silent ").append(press.silent());
         for (int hymn = 0; hymn < press.hymns(); hymn++) {
-            text.append("\nhymn ").append(hymn).append(':').append(press.pages(hymn)).append(' ').append(press.badTurns(hymn));
+            text.append("\nhymn ").append(hymn).append(':').append(press.pages(hymn));
+            text.append(' ').append(press.badTurns(hymn));
             for (int year = 0; year < 4; year++) {
                 text.append(' ').append(press.printed(hymn, year));
             }
@@ -24,7 +25,8 @@ final class Snapshot {
             text.append("\nservice ").append(service).append(':').append(press.hymnOf(service));
         }
         for (int owner = 0; owner < 5; owner++) {
-            text.append("\nowner ").append(owner).append(':').append(press.sung(owner, 0)).append(' ').append(press.sungByHymns(owner, 0));
+            text.append("\nowner ").append(owner).append(':').append(press.sung(owner, 0));
+            text.append(' ').append(press.sungByHymns(owner, 0));
         }
         return text.toString();
     }
